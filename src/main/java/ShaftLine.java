@@ -792,7 +792,7 @@ public final class ShaftLine {
                 if (at >= length) {
                     return -1;
                 }
-                if (text[at] != ';' || k == MOST_CLAUSES) {
+                if (next() != ';' || k == MOST_CLAUSES) {
                     return at;
                 }
                 at++;
@@ -906,7 +906,7 @@ public final class ShaftLine {
         }
 
         private void skipBlanks() {
-            for (; at < length && text[at] == ' '; at++) {
+            for (; at < length && next() == ' '; at++) {
                 continue;
             }
         }
