@@ -132,6 +132,7 @@ public final class PromisesTest {
         due("bearing(3, -51)", x.bearing(3, -51), ShaftLine.BAD);
         due("bearing(5, 51) at a bearing", x.bearing(5, 51), ShaftLine.BAD);
         due("bearing(5, 0) at a bearing", x.bearing(5, 0), ShaftLine.NOT);
+        due("bearing(0, 0) at the first", x.bearing(0, 0), ShaftLine.NOT);
         due("told(1, 1) after it", x.told(1, 1), 7);
         due("bearing(8, 0)", x.bearing(8, 0), 3);
         due("bearing(9, 0)", x.bearing(9, 0), 4);
@@ -149,6 +150,14 @@ public final class PromisesTest {
         y.bearing(3, 0);
         due("wear goes on with its bearing", y.told(2, 2), 2000);
         due("wear of the new one", y.told(1, 2), 0);
+        ShaftLine z = line("b0;b12;w3=16;w9=16");
+        load(z, 0, 0, 16, 1);
+        z.bearing(6, 0);
+        load(z, 0, 0, 5, 1);
+        z.remove(1);
+        load(z, 0, 0, 16, 1);
+        z.weight(0, 4);
+        load(z, 0, 0, 20, 1);
     }
 
     private static void remove() {
@@ -269,6 +278,14 @@ public final class PromisesTest {
         due("behind", x.rises(0, 2, 1, 13, 1), ShaftLine.INDEX);
         due("far behind", x.rises(0, 2, 1, Integer.MAX_VALUE, 13), ShaftLine.INDEX);
         due("BAD is ahead of NULL", x.rises(4, 0, 0, 0, 1), ShaftLine.BAD);
+        typed(x, "b1;b12;w6=1");
+        x.read();
+        x.rise(0, 1, 0);
+        high(x, 0, 1, 0, 1);
+        x.item(2, 1, 0, 5);
+        x.item(2, 1, 1, 6);
+        x.rises(0, 2, 1, 0, 2);
+        high(x, 0, 1, 6, 1);
     }
 
     private static void type() {
@@ -324,6 +341,11 @@ public final class PromisesTest {
         due("count(3)", x.count(3), 2);
         due("stiffness that is not told", x.count(2), 4);
         due("rises stay", x.rise(2, 3, 11), 11);
+        x.weight(0, 4);
+        typed(x, "f1;w1=1");
+        due("no bearings", x.read(), 0);
+        due("the least stiffness", x.count(2), 1);
+        due("no weight at place 0", x.count(1), 1);
         typed(x, "f20;f6");
         due("no bearings", x.read(), 0);
         due("the last stiffness", x.count(2), 6);
@@ -555,6 +577,18 @@ public final class PromisesTest {
         y.weight(1, 2);
         through(y, 0, 0, 5, 1);
         through(y, 0, 1, -3, 1);
+        six(line(SIX));
+    }
+
+    /** Six bearings, unlike spans, weights all along; the answers are those of the equations solved at once. */
+    private static final String SIX = "b1=3;b2;b4=-2;b7=1;b8;b11=2;w0=9;w3=50;w5=20;w6=31;w9=44;w12=7;f13";
+
+    private static void six(ShaftLine x) {
+        long[] above = {24881, -508, 139396, 307040, -74056, 180269};
+        long[] below = {774, 129, 3483, 3483, 3483, 6966};
+        for (int b = 0; b < 6; b++) {
+            through(x, 0, b, above[b], below[b]);
+        }
     }
 
     private static void table(ShaftLine x, int a, int b, long above, long below) {
@@ -569,6 +603,8 @@ public final class PromisesTest {
         table(x, 1, 0, -5, 36);
         table(x, 0, 0, 5, 72);
         table(x, 2, 0, 5, 72);
+        x.weight(0, 50);
+        table(x, 0, 0, 5, 72);
         x.stiffness(20);
         table(x, 1, 1, 5, 9);
         due("a 3", x.table(3, 0, 0), -FAR - 1);
@@ -579,6 +615,17 @@ public final class PromisesTest {
         due("what -1", x.table(0, 0, -1), -FAR - 1);
         x.remove(1);
         table(x, 0, 1, 0, 1);
+        ShaftLine y = line(SIX);
+        table(y, 0, 0, 1209, 86);
+        table(y, 0, 4, 182, 129);
+        table(y, 1, 1, 6669, 172);
+        table(y, 1, 5, 13, 86);
+        table(y, 2, 2, 76375, 4644);
+        table(y, 3, 3, 44512, 1161);
+        table(y, 4, 0, 182, 129);
+        table(y, 4, 4, 37960, 1161);
+        table(y, 5, 1, 13, 86);
+        table(y, 5, 5, 2561, 2322);
         x.remove(1);
         due("one bearing", x.table(0, 0, 0), -FAR - 2);
         due("BAD is ahead of NOT", x.table(0, 1, 0), -FAR - 1);
@@ -642,6 +689,7 @@ public final class PromisesTest {
         jack(x, 0, 6, 0, 22, 1);
         load(x, 0, 0, 16, 1);
         due("at a bearing", x.jack(0, 12, 0, 0), -FAR - 1);
+        due("at the first", x.jack(0, 0, 0, 0), -FAR - 1);
         due("height", x.jack(0, 6, 91, 0), -FAR - 1);
         due("height", x.jack(0, 6, -91, 0), -FAR - 1);
         due("state 4", x.jack(4, 6, 0, 0), -FAR - 1);
@@ -658,6 +706,13 @@ public final class PromisesTest {
         ShaftLine z = line("b0;b2;b4;b8;b10;b12;w6=50");
         jack(z, 0, 6, 0, 50, 1);
         jack(z, 0, 6, -90, 0, 1);
+        ShaftLine w = line("b0;b2;b4;b6;b8;b10;w1=50;w3=50;w5=50;w7=50;w9=50;w11=50");
+        jack(w, 0, 12, 0, 1775, 104);
+        jack(w, 0, 12, 3, 1201, 52);
+        jack(w, 0, 5, 0, 20, 1);
+        jack(w, 0, 1, -1, 0, 1);
+        jack(w, 0, 7, -90, 0, 1);
+        jack(w, 0, 11, 90, 18945, 202);
     }
 
     private static void bounds() {
@@ -706,6 +761,12 @@ public final class PromisesTest {
         due("fits(-1)", x.fits(-1), ShaftLine.BAD);
         due("it falls", line("b0;b1;w5=1").fits(1), 0);
         due("no bearings", new ShaftLine().fits(1), 0);
+        ShaftLine y = line("b0;b12;w0=40;w6=10");
+        y.bounds(0, 44);
+        due("the first beyond alone", y.fits(1), 0);
+        due("nor by a plan", y.plan(1), ShaftLine.NONE);
+        y.bounds(0, 45);
+        due("at the bound", y.fits(1), 1);
     }
 
     private static void plan() {
@@ -713,6 +774,9 @@ public final class PromisesTest {
         ShaftLine x = line("b0;b6;b12;w3=16;w9=16");
         x.bounds(4, 23);
         due("it fits as it is", x.plan(15), 0);
+        due("none is moved", x.move(15, 1), 0);
+        load(x, 0, 0, 5, 1);
+        high(x, 0, 6, 0, 1);
         x.offset(1, 3);
         x.bounds(5, 22);
         due("one alone can't", x.plan(1), 2);
@@ -842,6 +906,10 @@ public final class PromisesTest {
         due("no weights, no readings", line("b3").closes(), 1);
         due("one bearing", line("b3;w3=8").closes(), 10);
         due("one bearing aside", line("b3;w4=8").closes(), 0);
+        ShaftLine y = line("b2;b4;w3=10");
+        y.reading(0, 5);
+        y.reading(1, 5);
+        due("no bearing at place 0", y.closes(), 1);
     }
 
     private static void mended() {
@@ -926,6 +994,9 @@ public final class PromisesTest {
         x.weight(3, 5);
         x.weight(9, 1);
         due("two weights", x.whirl(), whirlOf(5, 1));
+        due("1/120 deep: 8 thousandths", line("b0;b2;w1=1;f20").whirl(), 125000);
+        due("13/120 deep: 108", line("b3;b5;w4=13;f20").whirl(), 1000000 / 108);
+        due("beyond, at place 0: 1 * 3 * 3 * 9 / 30", line("b3;b9;w0=1").whirl(), 1000000 / 2700);
         x.remove(0);
         due("one bearing", x.whirl(), ShaftLine.NOT);
         due("no bearings", new ShaftLine().whirl(), ShaftLine.NOT);
@@ -947,7 +1018,10 @@ public final class PromisesTest {
         ShaftLine x = new ShaftLine();
         due("sheet(3, 2, 13)", x.sheet(3, 2, 13), 13);
         x.item(3, 2, 12, 7);
+        x.item(3, 2, 0, 7);
         due("sheet(3, 2, 13)", x.sheet(3, 2, 13), 13);
+        due("0 at first", x.rises(0, 3, 2, 0, 1), 1);
+        due("rise", x.rise(0, 0, 0), 0);
         due("0 at first", x.rises(0, 3, 2, 12, 1), 1);
         due("rise", x.rise(0, 0, 0), 0);
         due("sheet(3, 0, 0)", x.sheet(3, 0, 0), 0);
