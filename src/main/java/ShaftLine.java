@@ -1069,7 +1069,7 @@ public final class ShaftLine {
                 }
             }
             behind[last + 1] = 1;
-            for (int a = last; a >= 1; a--) {
+            for (int a = last; a >= 2; a--) {
                 behind[a] = 2 * (span[a - 1] + span[a]) * behind[a + 1];
                 if (a < last) {
                     behind[a] -= span[a] * span[a] * behind[a + 2];
@@ -1144,7 +1144,10 @@ public final class ShaftLine {
         private long bulge(int p) {
             long sum = -below * cubes[p];
             for (int k = 0; k < count; k++) {
-                sum += push[k] * cubeOf(p - place[k]);
+                long distance = p - place[k];
+                if (distance > 0) {
+                    sum += push[k] * distance * distance * distance;
+                }
             }
             return sum;
         }
@@ -1155,7 +1158,8 @@ public final class ShaftLine {
         }
 
         private long secondLevel() {
-            return below * (6 * stiff * stand[1] + cubes[place[1]]) - push[0] * cubeOf(span[0]);
+            return below * (6 * stiff * stand[1] + cubes[place[1]])
+                - push[0] * span[0] * span[0] * span[0];
         }
     }
 

@@ -1,3 +1,4 @@
+import java.lang.reflect.Method;
 import java.math.BigInteger;
 import java.util.ArrayList;
 import java.util.Collections;
@@ -88,8 +89,8 @@ public final class ModelTest {
 
         private boolean compare(int call) {
             long[] a = arguments(call);
-            long got = answerOfLine(call, a);
-            long due = answerOfModel(call, a);
+            long got = answerOf(line, call, a);
+            long due = answerOf(model, call, a);
             calls++;
             if (isRefusal(call, due)) {
                 refused[call]++;
@@ -230,75 +231,27 @@ public final class ModelTest {
             return of(w, n);
         }
 
-        private long answerOfLine(int call, long[] a) {
-            switch (call) {
-                case 0: return line.bearing((int) a[0], (int) a[1]);
-                case 1: return line.remove((int) a[0]);
-                case 2: return line.offset((int) a[0], (int) a[1]);
-                case 3: return line.weight((int) a[0], (int) a[1]);
-                case 4: return line.stiffness((int) a[0]);
-                case 5: return line.rise((int) a[0], (int) a[1], (int) a[2]);
-                case 6: return line.rises((int) a[0], (int) a[1], (int) a[2], (int) a[3], (int) a[4]);
-                case 7: return line.type(a[0], (int) a[1]);
-                case 8: return line.read();
-                case 9: return line.told((int) a[0], (int) a[1]);
-                case 10: return line.count((int) a[0]);
-                case 11: return line.load((int) a[0], (int) a[1], (int) a[2]);
-                case 12: return line.lifted((int) a[0]);
-                case 13: return line.high((int) a[0], (int) a[1], (int) a[2]);
-                case 14: return line.through((int) a[0], (int) a[1], (int) a[2]);
-                case 15: return line.table((int) a[0], (int) a[1], (int) a[2]);
-                case 16: return line.coupling((int) a[0], (int) a[1], (int) a[2], (int) a[3]);
-                case 17: return line.jack((int) a[0], (int) a[1], (int) a[2], (int) a[3]);
-                case 18: return line.bounds((int) a[0], (int) a[1]);
-                case 19: return line.fits((int) a[0]);
-                case 20: return line.plan((int) a[0]);
-                case 21: return line.move((int) a[0], (int) a[1]);
-                case 22: return line.reading((int) a[0], (int) a[1]);
-                case 23: return line.closes();
-                case 24: return line.mended((int) a[0]);
-                case 25: return line.run((int) a[0]);
-                case 26: return line.whirl();
-                case 27: return line.sheet((int) a[0], (int) a[1], (int) a[2]);
-                case 28: return line.drop((int) a[0]);
-                case 29: return line.item((int) a[0], (int) a[1], (int) a[2], (int) a[3]);
-                default: return line.copy((int) a[0], (int) a[1], (int) a[2], (int) a[3], (int) a[4]);
+        /** The same call of the class or of the model, by its name. */
+        private static long answerOf(Object program, int call, long[] a) {
+            Method method = null;
+            for (Method m : program.getClass().getDeclaredMethods()) {
+                if (m.getName().equals(NAMES[call])
+                    && (m.getReturnType() == int.class || m.getReturnType() == long.class)) {
+                    method = m;
+                }
             }
-        }
-
-        private long answerOfModel(int call, long[] a) {
-            switch (call) {
-                case 0: return model.bearing((int) a[0], (int) a[1]);
-                case 1: return model.remove((int) a[0]);
-                case 2: return model.offset((int) a[0], (int) a[1]);
-                case 3: return model.weight((int) a[0], (int) a[1]);
-                case 4: return model.stiffness((int) a[0]);
-                case 5: return model.rise((int) a[0], (int) a[1], (int) a[2]);
-                case 6: return model.rises((int) a[0], (int) a[1], (int) a[2], (int) a[3], (int) a[4]);
-                case 7: return model.type(a[0], (int) a[1]);
-                case 8: return model.read();
-                case 9: return model.told((int) a[0], (int) a[1]);
-                case 10: return model.count((int) a[0]);
-                case 11: return model.load((int) a[0], (int) a[1], (int) a[2]);
-                case 12: return model.lifted((int) a[0]);
-                case 13: return model.high((int) a[0], (int) a[1], (int) a[2]);
-                case 14: return model.through((int) a[0], (int) a[1], (int) a[2]);
-                case 15: return model.table((int) a[0], (int) a[1], (int) a[2]);
-                case 16: return model.coupling((int) a[0], (int) a[1], (int) a[2], (int) a[3]);
-                case 17: return model.jack((int) a[0], (int) a[1], (int) a[2], (int) a[3]);
-                case 18: return model.bounds((int) a[0], (int) a[1]);
-                case 19: return model.fits((int) a[0]);
-                case 20: return model.plan((int) a[0]);
-                case 21: return model.move((int) a[0], (int) a[1]);
-                case 22: return model.reading((int) a[0], (int) a[1]);
-                case 23: return model.closes();
-                case 24: return model.mended((int) a[0]);
-                case 25: return model.run((int) a[0]);
-                case 26: return model.whirl();
-                case 27: return model.sheet((int) a[0], (int) a[1], (int) a[2]);
-                case 28: return model.drop((int) a[0]);
-                case 29: return model.item((int) a[0], (int) a[1], (int) a[2], (int) a[3]);
-                default: return model.copy((int) a[0], (int) a[1], (int) a[2], (int) a[3], (int) a[4]);
+            Object[] arguments = new Object[a.length];
+            for (int k = 0; k < a.length; k++) {
+                if (method.getParameterTypes()[k] == int.class) {
+                    arguments[k] = (int) a[k];
+                } else {
+                    arguments[k] = a[k];
+                }
+            }
+            try {
+                return ((Number) method.invoke(program, arguments)).longValue();
+            } catch (ReflectiveOperationException e) {
+                throw new IllegalStateException(NAMES[call] + " threw", e);
             }
         }
     }

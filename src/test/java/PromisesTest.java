@@ -798,6 +798,9 @@ public final class PromisesTest {
         due("it would fit", y.fits(1), 1);
         y.remove(4);
         due("four bearings", y.plan(1), 0);
+        ShaftLine four = line("b0;b4;b8;b12;w2=20;w6=20;w10=20");
+        four.bounds(1, 600);
+        due("all four carry", four.plan(1), 0);
         due("it falls", line("b0;b1;w5=1").plan(1), ShaftLine.NONE);
         due("no bearings", new ShaftLine().plan(1), ShaftLine.NONE);
         ShaftLine z = line("b0=49;b6=49;b12=49;w0=20;w3=16;w9=16;w12=20");
