@@ -801,6 +801,11 @@ public final class PromisesTest {
         ShaftLine four = line("b0;b4;b8;b12;w2=20;w6=20;w10=20");
         four.bounds(1, 600);
         due("all four carry", four.plan(1), 0);
+        due("it just falls", line("b4;b5;w6=1").plan(1), ShaftLine.NONE);
+        due("the first two would have to hold down by 1", line("b4;b5;b12=-50;w6=1").plan(1), 0);
+        ShaftLine bare = line("b0;b1;b2=-2");
+        bare.bounds(0, 0);
+        due("no loads, one lifted", bare.plan(1), 0);
         due("it falls", line("b0;b1;w5=1").plan(1), ShaftLine.NONE);
         due("no bearings", new ShaftLine().plan(1), ShaftLine.NONE);
         ShaftLine z = line("b0=49;b6=49;b12=49;w0=20;w3=16;w9=16;w12=20");
@@ -998,6 +1003,7 @@ public final class PromisesTest {
         x.weight(9, 1);
         due("two weights", x.whirl(), whirlOf(5, 1));
         due("1/120 deep: 8 thousandths", line("b0;b2;w1=1;f20").whirl(), 125000);
+        due("11/108 deep: 101, cut", line("b3;b5;w4=11;f18").whirl(), 9900);
         due("13/120 deep: 108", line("b3;b5;w4=13;f20").whirl(), 1000000 / 108);
         due("beyond, at place 0: 1 * 3 * 3 * 9 / 30", line("b3;b9;w0=1").whirl(), 1000000 / 2700);
         x.remove(0);
