@@ -28,7 +28,7 @@ final class BoundariesOfLoads {
             "line(b0;b6;b12;f1) -> 3", "table(1, 1) -> 1/36", "table(0, 0|2) -> 1/144", "table(0, 1) -> -1/72");
         Runs.of(part, "THE SHAFT going through all BEARINGS (two or more)",
             "line(b0;w0=1) -> 1", "table(0, 0) -> NOT", "bearing(12, 0) -> 1", "table(0|1, 0|1) -> 0",
-            "line(b0=50;b1=-50;b2;w12=50;f10) -> 3", "lifted(0) -> NOT", "table(0, 0) -> 15",
+            "line(b0=50;b1=-50;b2;w12=50;f10) -> 3", "lifted(0) -> NOT", "through(0, 2) -> 2925", "table(0, 0) -> 15",
             "line(b0;b1;b3;b6;b10;b12;f19) -> 6", "table(0, 0) -> 20121/983", "table(0, 1) -> -64695/1966", "table(1, 0) -> -64695/1966",
             "table(1, 1) -> 220077/3932", "table(0, 5) -> -171/983", "table(5, 0) -> -171/983", "table(3, 3) -> 244853/31456",
             "table(3, 4) -> -174591/31456", "table(5, 4) -> -68799/15728", "table(5, 5) -> 20805/7864");
@@ -37,7 +37,8 @@ final class BoundariesOfLoads {
             "remove(0) -> 1", "jack(0, 5, 0) -> 1", "count(0) -> 1");
         Runs.of(part, "as high as told (no RISE)",
             "line(b0;b12;w3=16;w9=16) -> 2", "jack(0, 6, 0) -> 22", "rise(0, 6, 20) -> 0", "jack(0, 6, 0) -> 22",
-            "rise(0, 0|12, 20) -> 0", "jack(0, 6, 20) -> 22", "jack(1, 6, 0) -> 22");
+            "rise(0, 0|12, 20) -> 0", "jack(0, 6, 20) -> 22", "jack(1, 6, 0) -> 22",
+            "load(1, 0) -> 16", "jack(1, 6, 0) -> 22", "load(1, 0) -> 16", "lifted(1) -> 0", "high(1, 6) -> -396/5");
         Runs.of(part, "is one BEARING more (numbered by PLACES with the others): its LOAD AT REST",
             "new", "jack(0, 6, 0) -> NOT", "line(b6;w3=3) -> 1", "jack(0, 0, -90) -> 3/2", "line(b6;w9=3) -> 1", "jack(0, 12, 0|90) -> 3/2",
             "jack(0, 5, 0) -> NOT", "line(" + SIX + ALL_WEIGHTS + ") -> 6", "jack(0, 6, -90|0|90) -> 650", "jack(0, 7, -90) -> 14125/28",

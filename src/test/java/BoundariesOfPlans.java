@@ -42,6 +42,11 @@ final class BoundariesOfPlans {
         Runs.of(part, "the LOAD of each BEARING is LOW or more, HIGH or less",
             "line(b0;b6=-12;b12;w3=2;w9=2;f9) -> 3", "lifted(0) -> 2", "bounds(0, 2) -> 1", "fits(1) -> 1", "bounds(1, 2) -> 1", "fits(1) -> 0",
             "offset(1, -10) -> -12", "load(0, 1) -> 1/4", "fits(1) -> 0", "bounds(0, 2) -> 1", "fits(1) -> 1", "bounds(0, 1) -> 1", "fits(1) -> 0");
+        Runs.of(part, "the LOAD of each BEARING is LOW or more, HIGH or less",
+            "line(b0;b12;w0=40;w6=10) -> 2", "bounds(0, 44) -> 1", "fits(1) -> 0", "plan(1) -> NONE", "bounds(0, 45) -> 1", "fits(1) -> 1", "plan(1) -> 0",
+            "line(b0;b12;w6=10;w12=40) -> 2", "bounds(0, 44) -> 1", "fits(1) -> 0", "plan(1) -> NONE", "bounds(5, 45) -> 1", "fits(1) -> 1", "plan(1) -> 0",
+            "bounds(6, 45) -> 1", "fits(1) -> 0", "plan(1) -> NONE", "line(b0;b1;b2=-3) -> 3", "bounds(0, 0) -> 1", "lifted(0) -> 7", "fits(1) -> 1", "plan(1) -> 0",
+            "bounds(1, 1) -> 1", "fits(1) -> 0", "plan(1) -> NONE");
         Runs.of(part, "in all STATES that are told",
             "line(b0;b6;b12;w3=16;w9=16) -> 3", "bounds(5, 22) -> 1", "fits(1|2|4|8|15) -> 1", "rise(3, 6, 1) -> 0",
             "fits(1|2|3|4|5|6|7) -> 1", "fits(8|9|10|11|12|13|14|15) -> 0", "rise(0, 6, 1) -> 0", "fits(2|4|6) -> 1", "fits(1|3|5|7|8|15) -> 0");
@@ -77,6 +82,11 @@ final class BoundariesOfPlans {
         Runs.of(part, "those with the fewest BEARINGS moved",
             "line(b0;b6=2;b12;" + INNER + ") -> 3", "bounds(5, 22) -> 1", "plan(1) -> 1", "move(1, 0|2) -> 0", "move(1, 1) -> -2",
             "line(b0=1;b6=1;b12=1;" + INNER + ") -> 3", "plan(1) -> 0", "move(1, 0|1|2) -> 0");
+        // four moves of 5 in all would do: it is as the fewest are sought first that three of 6 are the PLAN
+        Runs.of(part, "those with the fewest BEARINGS moved",
+            "line(b2=-1;b3=0;b6=-1;b11=-1;w2=36;w3=35;w6=32;w8=2;w11=43;f17) -> 4", "bounds(3, 42) -> 1", "fits(1) -> 0", "plan(1) -> 3",
+            "move(1, 0|1) -> -2", "move(1, 2) -> 2", "move(1, 3) -> 0", "offset(0, -2)", "offset(1, -1)", "offset(2, 1)", "offset(3, -2)", "fits(1) -> 1",
+            "offset(0, -3)", "offset(1, -2)", "offset(3, -1)", "fits(1) -> 1");
         Runs.of(part, "of like ones the least sum of their sizes",
             "line(b0;b6=1;b12;" + INNER + ") -> 3", "bounds(5, 22) -> 1", "plan(1) -> 1", "move(1, 1) -> -1", "move(1, 0|2) -> 0",
             "bounds(0, 22) -> 1", "plan(1) -> 1", "move(1, 1) -> -1", "offset(1, 3)", "plan(1) -> 2", "move(1, 0) -> 0", "move(1, 1) -> -2", "move(1, 2) -> 2");
@@ -123,7 +133,8 @@ final class BoundariesOfPlans {
         Runs.of(part, "NONE: there is no PLAN, or more than 4 BEARINGS",
             "plan(1|15) -> NONE", "line(b6;w6=1) -> 1", "plan(1) -> NONE", "bearing(5, 0) -> 0", "plan(1) -> 0", "weight(7, 1) -> 0", "plan(1) -> NONE",
             "line(b0;b3;b6;b12) -> 4", "plan(1) -> 0", "bearing(9, 0) -> 3", "plan(1) -> NONE", "fits(1) -> 1", "bearing(10, 0) -> 4", "plan(1) -> NONE",
-            "remove(4) -> 5", "plan(1) -> NONE", "remove(3) -> 4", "plan(1) -> 0");
+            "remove(4) -> 5", "plan(1) -> NONE", "remove(3) -> 4", "plan(1) -> 0", "bounds(0, 0) -> 1", "weight(6, 9) -> 0", "plan(1) -> NONE", "bounds(0, 9) -> 1",
+            "plan(1) -> 0", "remove(2) -> 3", "plan(1) -> 0", "bounds(0, 8) -> 1", "plan(1) -> 0", "remove(1) -> 2", "plan(1) -> 0", "bounds(0, 4) -> 1", "plan(1) -> NONE");
         Runs.of(part, "NONE: there is no PLAN",
             "line(b0;b6=5;b12;" + INNER + ") -> 3", "bounds(5, 22) -> 1", "plan(1) -> NONE", "offset(1, 4) -> 5", "plan(1) -> 3",
             "bounds(0, 0) -> 1", "plan(1) -> NONE", "bounds(600, 600) -> 1", "plan(15) -> NONE");
@@ -135,7 +146,8 @@ final class BoundariesOfPlans {
             "line(b0;b6=4;b12;" + INNER + ") -> 3", "bounds(5, 22) -> 1", "move(1|15, 0|2) -> 2", "move(1|15, 1) -> -2", "told(0|2, 1) -> 0", "told(1, 1) -> 4",
             "offset(1, 1) -> 4", "move(1, 0|2) -> 0", "move(1, 1) -> -1", "rise(3, 6, 1) -> 0", "move(8, 1) -> -2", "move(1, 1) -> -1", "move(9, 1) -> -2",
             "rise(3, 6, 3) -> 1", "move(9, 0|2) -> 2", "move(9, 1) -> -2", "rise(3, 6, 4) -> 3",
-            "move(9, 0|1|2) -> NONE-100", "move(1, 1) -> -1");
+            "move(9, 0|1|2) -> NONE-100", "move(1, 1) -> -1",
+            "load(0, 1) -> 401/18", "move(8, 1) -> NONE-100", "load(0, 1) -> 401/18", "high(0, 6) -> 1");
         Runs.of(part, "BAD less 100 (-101)",
             "move(1, 0) -> -101", "rich", "move(0|16|17|-1|MIN|MAX, 0) -> BAD-100", "move(1|15, -1|3|6|MIN|MAX) -> BAD-100", "move(0, 3) -> -101",
             "bearing(0|12, 0)", "move(1, 5|-1) -> BAD-100", "move(0|16, 4) -> BAD-100", "move(1, 4) -> NONE-100");

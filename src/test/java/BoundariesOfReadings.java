@@ -89,7 +89,8 @@ final class BoundariesOfReadings {
         Runs.of(part, "Whether READINGS CLOSE (1), or which BEARING's is the first that is WRONG (10 and it), or 0",
             "line(b6) -> 1", "closes() -> 1", "reading(0, 1) -> 0", "closes() -> 10", "weight(6, 1) -> 0", "closes() -> 1", "weight(6, 2) -> 1", "closes() -> 10",
             "weight(6, 0) -> 2", "weight(5, 1) -> 0", "closes() -> 0", "line(b0;b2;b4;b6;b8;b10) -> 6", "closes() -> 1", "reading(0, 600) -> 0",
-            "closes() -> 10", "reading(0, 0) -> 600", "reading(5, 1) -> 0", "closes() -> 15", "reading(0, 1) -> 0", "closes() -> 0");
+            "closes() -> 10", "reading(0, 0) -> 600", "reading(5, 1) -> 0", "closes() -> 15", "reading(0, 1) -> 0", "closes() -> 0",
+            THREE, "reading(0|2, 20) -> 0", "closes() -> 11", "reading(0|2, 600) -> 20", "closes() -> 11", "reading(2, 599) -> 600", "closes() -> 0");
         Runs.of(part, "NONE: no BEARINGS",
             "closes() -> NONE", "bearing(0, 0) -> 0", "closes() -> 1", "remove(0) -> 0", "closes() -> NONE", "weight(0, 1) -> 0", "closes() -> NONE",
             "line(w0=1) -> 0", "closes() -> NONE");

@@ -9,7 +9,14 @@ public final class BoundariesTest {
     }
 
     public static void main(String[] args) throws IOException {
-        Sentences.read(args.length > 0 ? args[0] : "../shared/DOC.md");
+        if (wrong(args.length > 0 ? args[0] : "../shared/DOC.md") != 0) {
+            System.exit(1);
+        }
+    }
+
+    /** How much is wrong. */
+    static int wrong(String document) throws IOException {
+        Sentences.read(document);
         BoundariesOfTerms.all();
         BoundariesOfTheLine.all();
         BoundariesOfTexts.all();
@@ -17,8 +24,6 @@ public final class BoundariesTest {
         BoundariesOfPlans.all();
         BoundariesOfReadings.all();
         BoundariesOfSheets.all();
-        if (Runs.end() != 0) {
-            System.exit(1);
-        }
+        return Runs.end();
     }
 }

@@ -1,7 +1,9 @@
 import java.lang.reflect.InvocationTargetException;
 import java.lang.reflect.Method;
 import java.util.ArrayList;
+import java.util.LinkedHashSet;
 import java.util.List;
+import java.util.Set;
 
 /**
  * Runs of calls, each told as rows of text, and each of one sentence of the document.
@@ -30,6 +32,9 @@ final class Runs {
     private static final String[] FALLING = {"line(b4;b6;w5=2;w9=9;f3)", "typed(b2;w3=9)", "sheet(0, 0, 2)"};
 
     private static final List<Method> CALLS = calls();
+    /** The tests that failed, and all, as their sentences. */
+    static final Set<String> FAILED = new LinkedHashSet<>();
+    static final Set<String> TESTS = new LinkedHashSet<>();
     private static String test = "";
     private static int tests = 0;
     private static int made = 0;
@@ -45,9 +50,7 @@ final class Runs {
 
     /** One test: of a sentence (or a part of it) of a part of the document. */
     static void of(String part, String sentence, String... rows) {
-        Sentences.test(part, sentence);
-        test = part + ", '" + sentence + "'";
-        tests++;
+        begin(part, sentence);
         Runs run = new Runs();
         for (String row : rows) {
             run.row(row);
@@ -56,10 +59,15 @@ final class Runs {
 
     /** One test of what is no call. */
     static void value(String part, String sentence, String name, long got, long due) {
+        begin(part, sentence);
+        compare(name, got, due);
+    }
+
+    private static void begin(String part, String sentence) {
         Sentences.test(part, sentence);
         test = part + ", '" + sentence + "'";
+        TESTS.add(test);
         tests++;
-        compare(name, got, due);
     }
 
     /** Tells what was found; the number of what is wrong. */
@@ -72,6 +80,7 @@ final class Runs {
 
     static void fail(String what) {
         wrong++;
+        FAILED.add(test);
         System.out.println(test + ": " + what);
     }
 
