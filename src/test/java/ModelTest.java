@@ -23,6 +23,13 @@ public final class ModelTest {
         for (int run = 0; run < 260; run++) {
             new Run(run).play();
         }
+        for (int places = 0, number = 0; places < 1 << 13; places++) {
+            if (Integer.bitCount(places) >= 2 && Integer.bitCount(places) <= 6 && number++ % 37 == 0) {
+                for (int ends = 0; ends < 4; ends++) {
+                    new Extreme(places, ends).look();
+                }
+            }
+        }
         for (int call = 0; call < told.length; call++) {
             if (told[call] == 0 || refused[call] == 0) {
                 System.out.println("the runs never had call " + Run.NAMES[call] + " answered and refused");
@@ -252,6 +259,65 @@ public final class ModelTest {
                 return ((Number) method.invoke(program, arguments)).longValue();
             } catch (ReflectiveOperationException e) {
                 throw new IllegalStateException(NAMES[call] + " threw", e);
+            }
+        }
+    }
+
+    /** A line with all at the ends of what it may be, and bearings up and down in turn. */
+    private static final class Extreme {
+        private final int places;
+        private final int ends;
+        private final ShaftLine line = new ShaftLine();
+        private final Model model = new Model();
+
+        Extreme(int places, int ends) {
+            this.places = places;
+            this.ends = ends;
+        }
+
+        void look() {
+            int bearings = make();
+            for (int what = 0; what < 2; what++) {
+                for (int b = 0; b < bearings; b++) {
+                    same(14, 1, b, what);
+                    same(15, b, bearings - 1, what);
+                }
+                for (int p = 0; p < 13; p++) {
+                    same(16, 1, p, 0, what);
+                    same(16, 1, p, 1, what);
+                }
+                same(11, 1, bearings / 2, what);
+                same(13, 1, 0, what);
+                same(13, 1, 12, what);
+                same(17, 1, places % 13, ends < 2 ? 90 : -90, what);
+            }
+            same(12, 1);
+            same(26);
+        }
+
+        private int make() {
+            same(4, ends % 2 == 0 ? 1 : 20);
+            int bearings = 0;
+            for (int p = 0; p < 13; p++) {
+                same(3, p, 50);
+                if ((places >> p & 1) == 1) {
+                    int side = (bearings + ends / 2) % 2 == 0 ? 1 : -1;
+                    same(0, p, 50 * side);
+                    same(5, 1, p, 20 * side);
+                    bearings++;
+                }
+            }
+            return bearings;
+        }
+
+        private void same(int call, long... a) {
+            long got = Run.answerOf(line, call, a);
+            long due = Run.answerOf(model, call, a);
+            calls++;
+            if (got != due) {
+                wrong++;
+                System.out.println("places " + Integer.toBinaryString(places) + ", ends " + ends + ": " + Run.NAMES[call]
+                    + java.util.Arrays.toString(a) + " answered " + got + ", due is " + due);
             }
         }
     }

@@ -41,8 +41,8 @@ import javax.tools.ToolProvider;
  *
  * Arguments: the class's file, the directory of the compiled tests, the document's file; then, if only
  * some changes are wanted, a file of them: each a line "---- part: sentence" (of the test that must find it),
- * then what stands, a line "=>", and what shall stand. With -Dleft=DIRECTORY the classes of changes that were
- * not found are put there, each in a directory of its number, for other tests to look at.
+ * then what stands, a line "=>", and what shall stand. With -Dleft=DIRECTORY the class as it is with
+ * each change that was not found is put there, for other tests to look at.
  */
 public final class Mutants {
     private static final long MOST_MILLIS = 60000;
