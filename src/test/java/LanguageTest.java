@@ -26,6 +26,9 @@ public final class LanguageTest {
     /** Words that the class needs nowhere: it makes nothing behind its constructor and throws nothing. */
     private static final String[] UNUSED = {"import", "package", "throw", "try", "catch", "finally", "synchronized",
         "assert", "instanceof", "double", "float", "String", "System.out", "Object", "while", "do", "record", "enum"};
+    /** Of the library that rule 4 leaves, what the class uses. */
+    private static final List<String> LIBRARY = List.of("Math.abs", "Math.max", "Math.min", "Integer.bitCount",
+        "System.arraycopy");
     private static int wrong = 0;
 
     public static void main(String[] args) throws IOException {
@@ -106,6 +109,10 @@ public final class LanguageTest {
             due("the word " + word + " is not there", !Pattern.compile("\\b" + word + "\\b").matcher(text).find());
         }
         due("no lambda, no method reference", !text.contains("->") && !text.contains("::"));
+        Matcher called = Pattern.compile("\\b([A-Z]\\w*\\.\\w+)\\s*\\(").matcher(text);
+        while (called.find()) {
+            due(called.group(1) + " is in the library", LIBRARY.contains(called.group(1)));
+        }
         Matcher made = Pattern.compile("[^\n]*\\bnew\\b[^\n]*").matcher(text);
         List<String> outside = new ArrayList<>();
         while (made.find()) {
